@@ -1,37 +1,7 @@
 import java.util.NoSuchElementException;
 
 /** Each promise of the document by hand-made runs: ordinary inputs, the edges, and wrong inputs. */
-public final class PromisesTest {
-    private static final int OUT = 0;
-    private static final int SEEKING = 1;
-    private static final int PROVING = 2;
-    private static final int READY = 3;
-    private static final int SERVING = 4;
-
-    private static final int AGE = 0;
-    private static final int ERRORS = 1;
-    private static final int TRIES = 2;
-    private static final int BUCKET = 3;
-    private static final int IDLE = 4;
-    private static final int FORE = 5;
-    private static final int BACK = 6;
-    private static final int FORE_BIT = 7;
-    private static final int BACK_BIT = 8;
-    private static final int SENT = 9;
-    private static final int QUEUED = 10;
-    private static final int TURN = 11;
-    private static final int HEARD = 12;
-
-    private static final int LOSE = 1;
-    private static final int DAMAGE = 2;
-
-    private interface Call {
-        void make();
-    }
-
-    private static int wrong = 0;
-    private static String part = "";
-
+public final class PromisesTest extends Checks {
     public static void main(String[] args) {
         newObject();
         starting();
@@ -68,89 +38,7 @@ public final class PromisesTest {
         taking();
         losing();
         ordersAreNotLost();
-        System.out.println(wrong == 0 ? "all promises hold" : wrong + " answers are not as due");
-        if (wrong != 0) {
-            System.exit(1);
-        }
-    }
-
-    private static void due(String what, long got, long want) {
-        if (got != want) {
-            wrong++;
-            System.out.println(part + ": " + what + " is " + got + ", due is " + want);
-        }
-    }
-
-    private static void yes(String what, boolean got) {
-        due(what, got ? 1 : 0, 1);
-    }
-
-    private static void no(String what, boolean got) {
-        due(what, got ? 1 : 0, 0);
-    }
-
-    private static void refused(String what, Class<?> want, Call call) {
-        Class<?> got = null;
-        try {
-            call.make();
-        } catch (RuntimeException e) {
-            got = e.getClass();
-        }
-        if (got != want) {
-            wrong++;
-            System.out.println(part + ": " + what + " throws " + got + ", due is " + want);
-        }
-    }
-
-    private static void noSuchIndex(String what, Call call) {
-        refused(what, IndexOutOfBoundsException.class, call);
-    }
-
-    private static void ticks(ThreeLinkPair x, int count) {
-        for (int i = 0; i < count; i++) {
-            x.tick();
-        }
-    }
-
-    private static void startBoth(ThreeLinkPair x, int... links) {
-        for (int link : links) {
-            yes("start", x.start(link, 0));
-            yes("start", x.start(link, 1));
-        }
-    }
-
-    /** A new object on which these links serve: SEEK, PROVE for six ticks, READY, SERVING. */
-    private static ThreeLinkPair serving(int... links) {
-        ThreeLinkPair x = new ThreeLinkPair();
-        startBoth(x, links);
-        ticks(x, 8);
-        for (int link : links) {
-            due("state at end 0", x.state(link, 0), SERVING);
-            due("state at end 1", x.state(link, 1), SERVING);
-        }
-        return x;
-    }
-
-    private static void submitAll(ThreeLinkPair x, int end, int kind, int... words) {
-        for (int word : words) {
-            yes("submit of " + word, x.submit(end, kind, word));
-        }
-    }
-
-    private static void takeAll(ThreeLinkPair x, int end, long... messages) {
-        due("inbox", x.inbox(end), messages.length);
-        for (long message : messages) {
-            if (x.inbox(end) > 0) {
-                due("take", x.take(end), message);
-            }
-        }
-    }
-
-    /** What of shows of a side, from 0 on. */
-    private static void shows(ThreeLinkPair x, int link, int end, int... values) {
-        for (int what = 0; what < values.length; what++) {
-            due("of(" + link + ", " + end + ", " + what + ")", x.of(link, end, what), values[what]);
-        }
+        finish("all promises hold");
     }
 
     private static void newObject() {
@@ -833,23 +721,6 @@ public final class PromisesTest {
         due("held", x.held(0), 0);
         due("lost", x.lost(), 1);
         takeAll(x, 1, 2, 3);
-    }
-
-    /**
-     * Lets link 0 serve between turn 1 of end 0 and turn 2 of end 1, of which end 0 did not hear:
-     * so the orders of end 1 about it settle nothing at end 0.
-     */
-    private static void serveUnheard(ThreeLinkPair x) {
-        startBoth(x, 0);
-        ticks(x, 2);
-        due("heard", x.of(0, 0, HEARD), 1);
-        x.stop(0, 1);
-        x.start(0, 1);
-        x.fault(0, 0, LOSE, 7);
-        ticks(x, 9);
-        due("it did not hear of turn 2", x.of(0, 0, HEARD), 1);
-        due("the turn", x.of(0, 1, TURN), 2);
-        due("yet both serve", x.state(0, 0) * 10 + x.state(0, 1), 10 * SERVING + SERVING);
     }
 
     private static void orderWithoutMemory() {
