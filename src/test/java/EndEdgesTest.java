@@ -332,6 +332,9 @@ public final class EndEdgesTest extends Checks {
     private static void aChangeoverBegins() {
         keptInOrder();
         keptOrdersGoOn();
+        keptAnew();
+        saidAnew();
+        waitsAnew();
         begunAgainIsSaidAgain();
         begunAgainHasTheTurnOfBefore();
         begunAgainHasTheWaitOfBefore();
@@ -373,6 +376,72 @@ public final class EndEdgesTest extends Checks {
         due("its order goes by link 2", underWay(x, 2, 0), 1);
         ticks(x, 2);
         due("it came and was answered", x.changes(1, 0), 0);
+    }
+
+    private static void keptAnew() {
+        part = "A CHANGEOVER begins: what its side had sent and queued is KEPT, not what one before kept";
+        ThreeLinkPair x = serving(0, 1);
+        submitAll(x, 0, 0, 1, 2);
+        stopBoth(x, 0);
+        ticks(x, 8);
+        due("they came by link 1", x.inbox(1), 2);
+        startBoth(x, 0);
+        ticks(x, 8);
+        submitAll(x, 0, 0, 3);
+        due("link", x.link(0, 0), 0);
+        stopBoth(x, 0);
+        ticks(x, 8);
+        due("changes", x.changes(0, 0), 0);
+        takeAll(x, 1, 1, 2, 3);
+    }
+
+    private static void saidAnew() {
+        part = "A CHANGEOVER begins: it is not SAID, not SETTLED";
+        ThreeLinkPair x = serving(0, 1);
+        for (int turn = 1; turn <= 3; turn++) {
+            x.fault(0, 1, LOSE, 1);
+            x.stop(0, 0);
+            due("not settled", x.changes(0, 0), 1);
+            ticks(x, 1);
+            due("its order is said", underWay(x, 1, 0), 1);
+            due("not settled", x.changes(0, 0), 1);
+            x.fault(0, 1, LOSE, 1);
+            ticks(x, 1);
+            due("by the order its other side fell", x.state(0, 1), OUT);
+            ticks(x, 1);
+            due("ended by the answer", x.changes(0, 0), 0);
+            startBoth(x, 0);
+            ticks(x, 8);
+            bothAre(x, 0, SERVING);
+        }
+    }
+
+    private static void waitsAnew() {
+        part = "A CHANGEOVER begins: WAIT is 0";
+        ThreeLinkPair x = serving(0);
+        submitAll(x, 0, 0, 1);
+        stopBoth(x, 0);
+        ticks(x, 6);
+        startBoth(x, 0);
+        ticks(x, 9);
+        due("the first one ended when its WAIT was 15", x.changes(0, 0), 0);
+        ticks(x, 4);
+        submitAll(x, 0, 0, 2);
+        ticks(x, 1);
+        stopBoth(x, 0);
+        ticks(x, 4);
+        startBoth(x, 1);
+        ticks(x, 8);
+        bothAre(x, 1, SERVING);
+        x.fault(1, 0, LOSE, 99);
+        x.fault(1, 1, LOSE, 99);
+        ticks(x, 7);
+        due("its WAIT is 19: lost", x.lost(), 0);
+        due("changes", x.changes(0, 0), 1);
+        ticks(x, 1);
+        due("its WAIT is 20: lost", x.lost(), 1);
+        due("changes", x.changes(0, 0), 0);
+        takeAll(x, 1, 1);
     }
 
     private static void begunAgainIsSaidAgain() {
@@ -567,16 +636,25 @@ public final class EndEdgesTest extends Checks {
 
     private static void settleWithNone() {
         part = "TO SETTLE with the number NONE: none has it";
-        ThreeLinkPair x = serving(1);
-        serveUnheard(x);
-        submitAll(x, 1, 0, 1, 2, 3, 4, 5);
-        x.fault(0, 1, LOSE, 99);
-        ticks(x, 6);
-        due("all came, without an answer", x.inbox(0) * 10 + x.of(0, 1, SENT), 55);
-        x.stop(0, 1);
-        ticks(x, 12);
-        due("lost", x.lost(), 0);
-        due("end 0 remembers nothing for turn 2, so all go on", x.inbox(0), 10);
+        for (int before = 0; before <= 8; before++) {
+            ThreeLinkPair x = serving(1);
+            serveUnheard(x);
+            for (int i = 0; i < before; i++) {
+                submitAll(x, 1, 0, i);
+                ticks(x, 1);
+            }
+            ticks(x, 3);
+            due("all were answered", x.of(0, 1, SENT), 0);
+            submitAll(x, 1, 0, 11, 12, 13, 14);
+            ticks(x, 1);
+            x.fault(0, 1, LOSE, 99);
+            ticks(x, 4);
+            due("all came, four without an answer", x.inbox(0) * 10 + x.of(0, 1, SENT), (before + 4) * 10 + 4);
+            x.stop(0, 1);
+            ticks(x, 12);
+            due("lost", x.lost(), 0);
+            due("end 0 remembers nothing for turn 2, so four come again", x.inbox(0), before + 8);
+        }
     }
 
     // EACH TICK of a changeover that is under way
@@ -751,6 +829,7 @@ public final class EndEdgesTest extends Checks {
         keptGoByTheChosenLinks();
         classesWithoutMessagesMove();
         classesMayStayOnThisLink();
+        keptMayLeaveThisLinkThoughItIsOpen();
         heldOfAnotherLinkStay();
         heldGoBehindThoseKept();
     }
@@ -866,6 +945,22 @@ public final class EndEdgesTest extends Checks {
         due("class 0", x.link(0, 0), 0);
         due("class 1", x.link(0, 1), 1);
         due("class 3", x.link(0, 3), 0);
+    }
+
+    private static void keptMayLeaveThisLinkThoughItIsOpen() {
+        part = "it ENDS: for another one its class's link becomes the one that is chosen (this one is open)";
+        ThreeLinkPair x = serving(0);
+        submitAll(x, 0, 1, 1);
+        submitAll(x, 0, 0, 2);
+        stopBoth(x, 0);
+        startBoth(x, 0, 1);
+        ticks(x, 9);
+        due("changes", x.changes(0, 0), 0);
+        due("class 0", x.link(0, 0), 0);
+        due("class 1", x.link(0, 1), 1);
+        due("on link 1", underWay(x, 1, 0), 1);
+        ticks(x, 4);
+        takeAll(x, 1, message(1, 1), 2);
     }
 
     private static void heldOfAnotherLinkStay() {

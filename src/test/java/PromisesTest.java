@@ -32,7 +32,6 @@ public final class PromisesTest extends Checks {
         changesWaitForAServingLink();
         changeoverAgain();
         orderWithoutMemory();
-        memoryOfSixteenTurns();
         heldGoBehindKept();
         inboxes();
         taking();
@@ -736,48 +735,6 @@ public final class PromisesTest extends Checks {
         ticks(x, 4);
         due("the answer was NONE, so nothing was given up", x.lost(), 0);
         takeAll(x, 0, 4, 5, 4, 5);
-    }
-
-    private static void memoryOfSixteenTurns() {
-        part = "promise 10, what is remembered";
-        due("came twice after turn 16", twiceAfter(15), 0);
-        due("came twice after turn 17", twiceAfter(16), 1);
-        due("came twice after turn 18", twiceAfter(17), 0);
-        due("came twice after turn 33", twiceAfter(32), 1);
-    }
-
-    /**
-     * End 1 takes a message in turn 1 of end 0, without an answer; the order about that turn comes
-     * to end 1 only after link 0 has served and fallen in a later turn of end 0.
-     */
-    private static int twiceAfter(int moreTurns) {
-        ThreeLinkPair x = new ThreeLinkPair();
-        serveUnheard(x);
-        submitAll(x, 0, 0, 1);
-        ticks(x, 2);
-        due("it came", x.inbox(1), 1);
-        x.stop(0, 0);
-        x.stop(0, 1);
-        for (int turn = 1; turn < moreTurns; turn++) {
-            x.start(0, 0);
-            x.stop(0, 0);
-        }
-        startBoth(x, 0);
-        due("turn", x.of(0, 0, TURN), 1 + moreTurns);
-        ticks(x, 1);
-        startBoth(x, 1);
-        ticks(x, 7);
-        due("link 0 serves again", x.state(0, 0) * 10 + x.state(0, 1), 10 * SERVING + SERVING);
-        x.stop(0, 0);
-        x.stop(0, 1);
-        ticks(x, 1);
-        due("link 1 serves", x.state(1, 0) * 10 + x.state(1, 1), 10 * SERVING + SERVING);
-        due("not settled", x.changes(0, 0), 1);
-        ticks(x, 2);
-        due("settled by the answer, and ended", x.changes(0, 0), 0);
-        ticks(x, 6);
-        due("lost", x.lost(), 0);
-        return x.inbox(1) - 1;
     }
 
     private static void heldGoBehindKept() {

@@ -214,6 +214,7 @@ public final class SideEdgesTest extends Checks {
         fallWhenServing();
         fallWhenReadyIsNotRemembered();
         fallIsRememberedInPlaceOfSixteenLess();
+        fallIsRememberedForItsTurnAlone();
     }
 
     private static void fallSaysOutOnce() {
@@ -375,6 +376,49 @@ public final class SideEdgesTest extends Checks {
         }
     }
 
+    /**
+     * As cameTwice, but in the later turn end 1 takes a message too (the order about turn 1, its
+     * answer is lost): so it has the same BACK in both turns, and an order more asks for turn 1.
+     */
+    private static int cameTwiceWithTheSameBack(int laterTurn) {
+        ThreeLinkPair x = new ThreeLinkPair();
+        serveUnheard(x);
+        submitAll(x, 0, 0, 1);
+        ticks(x, 2);
+        due("BACK in turn 1", x.of(0, 1, BACK), 0);
+        stopBoth(x, 0);
+        for (int turn = 2; turn < laterTurn; turn++) {
+            x.start(0, 0);
+            x.stop(0, 0);
+        }
+        startBoth(x, 0);
+        ticks(x, 2);
+        startBoth(x, 1);
+        ticks(x, 6);
+        bothAre(x, 0, SERVING);
+        x.fault(0, 0, LOSE, 99);
+        ticks(x, 1);
+        due("BACK in the later turn", x.of(0, 1, BACK), 0);
+        due("heard", x.of(0, 1, HEARD), laterTurn);
+        stopBoth(x, 0);
+        ticks(x, 2);
+        bothAre(x, 1, SERVING);
+        due("not settled", x.changes(0, 0), 1);
+        ticks(x, 1);
+        due("settled by the answer, and ended", x.changes(0, 0), 0);
+        ticks(x, 6);
+        due("lost", x.lost(), 0);
+        return x.inbox(1) - 1;
+    }
+
+    private static void fallIsRememberedForItsTurnAlone() {
+        part = "TO FALL: its BACK is REMEMBERED for the turn that it heard, for no other one";
+        due("came twice after turn 16", cameTwiceWithTheSameBack(16), 0);
+        due("came twice after turn 17", cameTwiceWithTheSameBack(17), 1);
+        due("came twice after turn 18", cameTwiceWithTheSameBack(18), 0);
+        due("came twice after turn 33", cameTwiceWithTheSameBack(33), 1);
+    }
+
     // A STATUS COMES
 
     private static void aStatusComes() {
@@ -466,21 +510,21 @@ public final class SideEdgesTest extends Checks {
 
     private static void seekIsHeardAtLast() {
         part = "SEEK comes: at last the turn is what it heard";
-        ThreeLinkPair x = serving(0, 1);
+        ThreeLinkPair x = serving(1);
+        serveUnheard(x);
         x.fault(0, 0, LOSE, 99);
         submitAll(x, 0, 0, 1, 2);
         ticks(x, 3);
-        due("both came", x.inbox(1), 2);
-        x.fault(1, 1, LOSE, 2);
+        due("both came, without an answer", x.inbox(1) * 10 + x.of(0, 0, SENT), 22);
         x.stop(0, 0);
         x.start(0, 0);
         ticks(x, 2);
         due("it fell by SEEK", x.state(0, 1), OUT);
         due("then it heard", x.of(0, 1, HEARD), 2);
+        due("its changeover had heard of turn 1: settled by the order, and ended", x.changes(0, 1), 0);
         ticks(x, 8);
-        due("its BACK is remembered for turn 1, so none came twice", x.inbox(1), 2);
         due("changes", x.changes(0, 0), 0);
-        due("lost", x.lost(), 0);
+        due("its BACK was remembered for turn 1, so none came twice", x.inbox(1), 2);
     }
 
     /** End 1 was started, but the other side's SEEKs did not come to it; end 0 sends PROVE. */
