@@ -5,9 +5,10 @@ import java.util.Random;
  * most once, those of a class come in the order in which they were submitted, and when it is quiet
  * again none is missing but those that count as lost. The same runs each time.
  *
- * The document itself leaves one way to come twice, which these runs don't meet: a link that serves
- * though one side never heard the other's turn, since each SEEK and PROVE of that turn was lost.
- * Then nothing is remembered for the turn of the order, and the answer to it settles with NONE.
+ * By the document's own words a message can come twice in a case that these runs don't meet (harsher
+ * ones did): a link that serves though one side never heard the other's turn, since each SEEK and
+ * PROVE of that turn was lost. Then nothing is remembered for the turn of the order, and the answer
+ * to it settles with NONE.
  */
 public final class OnceAndInOrderTest extends Checks {
     private static final int RUNS = 4000;
